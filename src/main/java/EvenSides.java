@@ -975,6 +975,9 @@ public final class EvenSides {
         final int[] miles = new int[DOORS];
         final int[] onAt = new int[LOADS];
         final int[] offAt = new int[LOADS];
+
+        /* By LOAD and LEG: what it weighs there, ON or not. */
+        final int[][] weighs = new int[LOADS][DOORS];
         private final int[] stopOf = new int[PLACES];
 
         Legs(Told told) {
@@ -995,6 +998,9 @@ public final class EvenSides {
             }
             for (int l = 0; l < told.loads; l++) {
                 findStops(l);
+                for (int leg = 0; leg < many; leg++) {
+                    weighs[l][leg] = told.weightBehind(l, leg);
+                }
             }
         }
 
@@ -1085,8 +1091,9 @@ public final class EvenSides {
         /** A LOAD comes to its SIDE (way 1), or leaves it (-1), on the LEGS from first to end. */
         private void bring(int l, int first, int end, int way) {
             int code = row[l];
+            int[] weighs = legs.weighs[l];
             for (int leg = first; leg < end; leg++) {
-                bears[leg][code] += way * told.weightBehind(l, leg);
+                bears[leg][code] += way * weighs[leg];
                 loadsOn[leg][code] += way;
             }
         }
@@ -1155,7 +1162,7 @@ public final class EvenSides {
             for (int l = told.loads - 1; l >= 0; l--) {
                 int first = legs.firstLeg(l), end = legs.endLeg(l);
                 for (int leg = 0; leg < legs.many; leg++) {
-                    int here = leg >= first && leg < end ? told.weightBehind(l, leg) : 0;
+                    int here = leg >= first && leg < end ? legs.weighs[l][leg] : 0;
                     still[l][leg] = still[l + 1][leg] + here;
                 }
             }
@@ -1170,7 +1177,7 @@ public final class EvenSides {
             for (int code = 0; code < 2 * s.told.mules; code++) {
                 s.row[l] = code;
                 s.bring(l, first, end, 1);
-                if (s.isBorneWith(l) && s.mayDoBetter(l + 1)) seek(s, l + 1);
+                if (s.isBorneWith(l) && s.mayDoBetter(l)) seek(s, l + 1);
                 s.bring(l, first, end, -1);
             }
         }
@@ -1189,12 +1196,13 @@ public final class EvenSides {
             System.arraycopy(row, 0, found, 0, LOADS);
         }
 
-        /* All LOADS still to come can make a MULE even by no more than what they weigh. */
+        /* All LOADS behind l can make a MULE even by no more than what they weigh. */
         private boolean mayDoBetter(int l) {
             if (byChance) return likeliest < certain;
             if (least <= 0) return false;
-            for (int leg = 0; leg < legs.many; leg++) {
-                int reach = least + still[l][leg];
+            int end = legs.endLeg(l);
+            for (int leg = legs.firstLeg(l); leg < end; leg++) {
+                int reach = least + still[l + 1][leg];
                 for (int m = 0; m < told.mules; m++) {
                     if (Math.abs(more(leg, m)) >= reach) return false;
                 }

@@ -1,0 +1,77 @@
+import java.nio.charset.StandardCharsets;
+import java.nio.file.Files;
+import java.nio.file.Path;
+import java.util.regex.Matcher;
+import java.util.regex.Pattern;
+
+/** What can be seen of LANGUAGE.md in the text of the file (run from the project's root). */
+public final class LanguageTest {
+    private static final String FILE = "src/main/java/EvenSides.java";
+    private static final String[] NEVER = {"throw", "throws", "try", "catch", "finally", "synchronized", "assert",
+        "package", "native", "volatile", "transient", "var", "yield", "protected", "Object", "Exception"};
+
+    private static int wrong = 0;
+
+    private static void check(boolean right, String what) {
+        if (right) return;
+        wrong++;
+        System.out.println("wrong: " + what);
+    }
+
+    /** The code alone: comments, texts and characters are taken out, lines stay. */
+    private static String code(String file) {
+        Matcher m = Pattern.compile("//[^\n]*|/\\*.*?\\*/|\"[^\"\n]*\"|'[^'\n]*'", Pattern.DOTALL).matcher(file);
+        return m.replaceAll(r -> r.group().replaceAll("[^\n]", " "));
+    }
+
+    private static boolean has(String code, String pattern) {
+        return Pattern.compile(pattern).matcher(code).find();
+    }
+
+    private static void checkWords(String code) {
+        for (String word : NEVER) check(!has(code, "\\b" + word + "\\b"), "the word " + word);
+        check(!has(code, "->|::"), "a lambda or a method reference");
+        check(!has(code, "\\bstatic\\s*\\{"), "a static initialiser");
+        check(!has(code, "\\bstatic\\s+(?!final\\b)[\\w\\[\\]]+\\s+\\w+\\s*[=;]"), "static state");
+        check(!has(code, "\\]\\s*\\[\\s*\\]\\s*\\["), "an array of three dimensions");
+        check(!has(code, "\\bclass\\s+\\w+") || !has(code, "(?<!static final |public final )\\bclass\\s+\\w"),
+            "a class inside that is not static");
+    }
+
+    private static void checkImports(String code) {
+        Matcher m = Pattern.compile("import\\s+([^;]+);").matcher(code);
+        while (m.find()) {
+            check(m.group(1).matches("java\\.util\\.(Arrays|ArrayList|List|Iterator)"), "import of " + m.group(1));
+        }
+        Matcher library = Pattern.compile("\\b(Arrays|Math|System|Integer)\\.(\\w+)").matcher(code);
+        while (library.find()) {
+            check(library.group(2).matches("fill|arraycopy|max|min|abs|bitCount"), library.group());
+        }
+    }
+
+    private static void checkLengths(String code) {
+        String[] lines = code.split("\n");
+        int begin = -1;
+        String end = "";
+        for (int i = 0; i < lines.length; i++) {
+            if (begin < 0 && lines[i].matches("\\s+[\\w\\[\\] ]+\\([^;]*\\{\\s*") && !lines[i].matches("\\s+(if|for|while|switch|do|else)\\b.*")) {
+                begin = i;
+                end = lines[i].replaceAll("\\S.*", "") + "}";
+            } else if (begin >= 0 && lines[i].stripTrailing().equals(end)) {
+                check(i - begin <= 60, "a method of " + (i - begin) + " lines at " + (begin + 1));
+                begin = -1;
+            }
+        }
+    }
+
+    public static void main(String[] args) throws Exception {
+        String file = Files.readString(Path.of(FILE), StandardCharsets.ISO_8859_1);
+        check(!has(file, "[^\n -~]"), "a sign that is not 32 to 126");
+        String code = code(file);
+        checkWords(code);
+        checkImports(code);
+        checkLengths(code);
+        System.out.println(wrong == 0 ? "the file keeps to the language" : wrong + " faults of the language");
+        if (wrong != 0) System.exit(1);
+    }
+}

@@ -197,9 +197,7 @@ public final class EvenSides {
 
     public int line(int door) {
         if (!now.isDoor(door)) return BAD;
-        for (int i = 0; i < now.lined; i++) {
-            if (now.line[i] == door) return NO;
-        }
+        if (now.lined >= DOORS || now.isInLine(door)) return NO;
         now.line[now.lined] = door;
         now.lined++;
         return now.lined;
@@ -445,6 +443,13 @@ public final class EvenSides {
 
         boolean isDoor(int d) {
             return between(d, 1, doors);
+        }
+
+        boolean isInLine(int d) {
+            for (int i = 0; i < lined; i++) {
+                if (line[i] == d) return true;
+            }
+            return false;
         }
 
         boolean isMule(int m) {
@@ -1057,7 +1062,7 @@ public final class EvenSides {
         private final int[][] bears = new int[DOORS][SIDES];
         private final int[][] loadsOn = new int[DOORS][SIDES];
 
-        /* By LOAD and LEG: what that LOAD and all behind it weigh there together. */
+        /* By LOAD and LEG: what that LOAD and those of higher numbers that are ON weigh there. */
         private final int[][] still = new int[LOADS + 1][DOORS];
 
         /* By STONES on SIDE 0, less 9 (those below 0 are on SIDE 1): how many were lifted so far. */
@@ -1196,7 +1201,7 @@ public final class EvenSides {
             System.arraycopy(row, 0, found, 0, LOADS);
         }
 
-        /* All LOADS behind l can make a MULE even by no more than what they weigh. */
+        /* LOADS of higher numbers can make a MULE more even by no more than what they weigh. */
         private boolean mayDoBetter(int l) {
             if (byChance) return likeliest < certain;
             if (least <= 0) return false;
@@ -1219,7 +1224,7 @@ public final class EvenSides {
             return chance;
         }
 
-        /** The same for one MULE, the LOADS ahead of l being asked for, or not, by now. */
+        /** The same for one MULE, when LOADS below l have come off, or stayed, as they hang now. */
         private static long chanceOfMule(Scales s, int m, int l) {
             if (l >= s.told.loads) return s.isEven(m) ? 1 : 0;
             if (s.row[l] >> 1 != m || s.legs.offAt[l] == NONE) return chanceOfMule(s, m, l + 1);
@@ -1309,12 +1314,10 @@ public final class EvenSides {
         /* From the lowest DOORS on, so that the orders come by their rows. */
         private void beginOrders() {
             int many = 0;
-            for (int d = 1; d <= told.doors; d++) {
-                for (int i = 0; i < told.lined; i++) {
-                    if (told.line[i] == d && many < DOORS) {
-                        order[many] = d;
-                        many++;
-                    }
+            for (int d = 1; d <= told.doors && many < DOORS; d++) {
+                if (told.isInLine(d)) {
+                    order[many] = d;
+                    many++;
                 }
             }
         }

@@ -288,8 +288,39 @@ public final class PromisesTest {
         faults(1, "go 1 2;", 5);
         faults(1, "go0;go1;", -1);
         faults(1, "swap 0 1 2;", 10);
+        String[] acts = {"hang 0 0 0;", "take 0 1;", "over 0 1;", "swap 0 1 2 3;", "stone 0 1;", "drop 0 1;", "go 1;"};
+        for (String act : acts) {
+            faults(0, act, 0);
+            faults(1, "x" + act.substring(1), 0);
+            faults(1, act.substring(1), 0);
+        }
+        for (String item : all.split("(?<=;)")) {
+            faults(1, item, 0);
+            faults(0, "x" + item.substring(1), 0);
+            faults(0, item.substring(1), 0);
+        }
+        faults(0, "load 4 xard 0 1;", 7);
+        faults(1, "go0;".repeat(60), -1);
+        faults(1, "go0;".repeat(59) + "go00", 240);
+        faults(1, "go0;".repeat(59) + "gogo", 236);
+        staleBytes();
         EvenSides x = new EvenSides();
         for (int t : new int[] {-1, 2, BIG, LOW}) due("fault", x.fault(t), -2);
+    }
+
+    /** What a text had before it was cleared is not read. */
+    private static void staleBytes() {
+        EvenSides x = new EvenSides();
+        type(x, 0, "doors;door;");
+        retype(x, 0, "door");
+        due("fault(0)", x.fault(0), 4);
+        retype(x, 0, "mule 1 2 34;");
+        retype(x, 0, "mule 1 2 3");
+        due("fault(0)", x.fault(0), 10);
+        retype(x, 0, "door   door;");
+        retype(x, 0, "door;  ");
+        due("fault(0)", x.fault(0), -1);
+        due("day()", x.day(), 1);
     }
 
     private static void p15() {
@@ -1045,13 +1076,14 @@ public final class PromisesTest {
             70, 8, 9, 999, 44, 71, 18, 19, 999, 999,
             33, 1, 2, 1, 66, 0, -1, 34, 0, 0, 2, 100, 3, 3,
             17, 6, 2, 1, 97, 98, 255, 99, 0, 1));
-        x.hang(0, 0, 0);
-        x.lame(1, 1, 0);
-        x.mule(1, 99, 1);
-        x.ask(0, 50);
-        x.ask(1, 50);
-        x.chance();
-        due("digest() changes nothing", x.digest(), x.digest());
+        EvenSides y = told("door;door;mule 9 0 9;load 3 hard 0 1;load 3 hard 0 1;ask 0 35;ask 1 0;");
+        hangAll(y, "01");
+        lineAll(y, "12");
+        y.clear(0);
+        y.chance();
+        due("digest() with a fraction", y.digest(), mix(2, 1, 2, 2, 0, 0,
+            0, 0, 1, 0, 0, 1, 1, 0, 0, 9, 0, 9, 999, 999,
+            3, 1, 0, 1, 35, 0, 0, 3, 1, 0, 1, 0, 0, 1, 5, 2, 1, 2, 13, 20));
     }
 
     private interface Check {

@@ -1065,7 +1065,7 @@ public final class EvenSides {
         /* By LOAD and LEG: what that LOAD and those of higher numbers that are ON weigh there. */
         private final int[][] still = new int[LOADS + 1][DOORS];
 
-        /* By STONES on SIDE 0, less 9 (those below 0 are on SIDE 1): how many were lifted so far. */
+        /* By 9 and the STONES on SIDE 0, or 9 less those on SIDE 1: how many were lifted so far. */
         private final int[] lifted = new int[2 * LEG_STONES + 1];
         private final int[] liftedAhead = new int[2 * LEG_STONES + 1];
 

@@ -46,6 +46,7 @@ public final class EvenSides {
     private final Scales scales = new Scales(now, legs);
     private final Routes routes = new Routes(now, legs, scales);
     private final Layers layers = new Layers(now, legs);
+    private final Alone aloneOrders = new Alone(now);
     private long above = 0, below = 1;
 
     public EvenSides() {
@@ -281,9 +282,9 @@ public final class EvenSides {
     public int alone(int mule, int t, int what) {
         if (!now.isMule(mule) || !between(t, 0, 999) || what < NONE) return LOW_BAD;
         if (!now.allHung()) return LOW_NO;
-        int all = now.hungInHouse(mule);
-        if (what == NONE) return Alone.ordersBehind(now, t, all, 0);
-        return Alone.inFirst(now, t, all, what);
+        int many = aloneOrders.find(mule, t);
+        if (what == NONE) return many;
+        return many > 0 ? aloneOrders.inFirst(what) : NO_SUCH;
     }
 
     // ---- what there is
@@ -606,15 +607,6 @@ public final class EvenSides {
                 }
             }
             return Math.abs(more);
-        }
-
-        /** The LOADS FROM the HOUSE that are hung on a MULE, as bits. */
-        int hungInHouse(int m) {
-            int bits = 0;
-            for (int l = 0; l < loads; l++) {
-                if (load[l][FROM] == HOUSE && load[l][CODE] >> 1 == m) bits |= 1 << l;
-            }
-            return bits;
         }
 
         int howMany(int what) {
@@ -1180,11 +1172,39 @@ public final class EvenSides {
             }
             int first = s.legs.firstLeg(l), end = s.legs.endLeg(l);
             for (int code = 0; code < 2 * s.told.mules; code++) {
+                if (s.repeats(l, code)) continue;
                 s.row[l] = code;
                 s.bring(l, first, end, 1);
                 if (s.isBorneWith(l) && s.mayDoBetter(l)) seek(s, l + 1);
                 s.bring(l, first, end, -1);
             }
+        }
+
+        /* What is alike and bears nothing yet may change places: the rows with the lower code come first. */
+        private boolean repeats(int l, int code) {
+            int m = code >> 1;
+            if (bearsBelow(l, m)) return false;
+            int[] mule = told.mule[m];
+            if ((code & 1) == 1 && mule[BEARS] == mule[BEARS + 1]) return true;
+            for (int k = 0; k < m; k++) {
+                if (!bearsBelow(l, k) && alike(told.mule[k], mule)) return true;
+            }
+            return false;
+        }
+
+        /** Whether a LOAD of a number below l hangs on a MULE. */
+        private boolean bearsBelow(int l, int m) {
+            for (int k = 0; k < l; k++) {
+                if (row[k] >> 1 == m) return true;
+            }
+            return false;
+        }
+
+        private static boolean alike(int[] one, int[] other) {
+            for (int i = 0; i < MULE_ROW; i++) {
+                if (one[i] != other[i]) return false;
+            }
+            return true;
         }
 
         /* Rows come in their order, so that a later one must do better, not alike. */
@@ -1201,16 +1221,17 @@ public final class EvenSides {
             System.arraycopy(row, 0, found, 0, LOADS);
         }
 
-        /* LOADS of higher numbers can make a MULE more even by no more than what they weigh. */
+        /* LOADS of higher numbers can make MULES more even, all together, by no more than they weigh. */
         private boolean mayDoBetter(int l) {
             if (byChance) return likeliest < certain;
             if (least <= 0) return false;
             int end = legs.endLeg(l);
             for (int leg = legs.firstLeg(l); leg < end; leg++) {
-                int reach = least + still[l + 1][leg];
+                int over = 0;
                 for (int m = 0; m < told.mules; m++) {
-                    if (Math.abs(more(leg, m)) >= reach) return false;
+                    over += Math.max(0, Math.abs(more(leg, m)) - least + 1);
                 }
+                if (over > still[l + 1][leg]) return false;
             }
             return true;
         }
@@ -1431,60 +1452,88 @@ public final class EvenSides {
         }
     }
 
-    /** The orders in which one man ALONE hangs the LOADS of a MULE; LOADS as bits. */
+    /**
+     * The orders in which one man ALONE hangs the LOADS of a MULE. Those of them that hang are
+     * bits: of the first, the second, .. of them.
+     */
     private static final class Alone {
-        /** The LOAD in a place of the first order. */
-        static int inFirst(Told told, int t, int all, int place) {
-            if (place >= Integer.bitCount(all) || ordersBehind(told, t, all, 0) == 0) return NO_SUCH;
-            int hung = 0, last = NONE;
-            for (int i = 0; i <= place && i < LOADS; i++) {
-                last = nextInFirst(told, t, all, hung);
-                if (last == NONE) return NO_SUCH;
+        private static final int MOST_HUNG = 2 * PILE;
+
+        final Told told;
+        private int many, mostUneven;
+        private final int[] loads = new int[MOST_HUNG];
+        private final int[] high = new int[2];
+
+        /* By those that hang: in how many orders the others can follow. */
+        private final int[] orders = new int[1 << MOST_HUNG];
+
+        Alone(Told told) {
+            this.told = told;
+        }
+
+        /** How many orders there are. */
+        int find(int m, int t) {
+            mostUneven = t;
+            if (!gather(m)) return 0;
+            int all = (1 << many) - 1;
+            orders[all] = 1;
+            for (int hung = all - 1; hung >= 0; hung--) {
+                orders[hung] = 0;
+                for (int i = 0; i < many; i++) {
+                    if (mayFollow(hung, i)) orders[hung] += orders[hung | 1 << i];
+                }
+            }
+            return orders[0];
+        }
+
+        /** The LOAD in a place of the first order, if there is one. */
+        int inFirst(int place) {
+            if (place >= many) return NO_SUCH;
+            int hung = 0, last = 0;
+            for (int k = 0; k <= place; k++) {
+                last = nextInFirst(hung);
                 hung |= 1 << last;
             }
-            return last;
+            return loads[last];
         }
 
-        private static int nextInFirst(Told told, int t, int all, int hung) {
+        /** Finds the LOADS; not if a SIDE would have more than it may. */
+        private boolean gather(int m) {
+            many = 0;
+            Arrays.fill(high, 0);
             for (int l = 0; l < told.loads; l++) {
-                if (mayFollow(told, t, all & ~hung, hung, l)
-                        && ordersBehind(told, t, all, hung | 1 << l) > 0) {
-                    return l;
-                }
+                int code = told.load[l][CODE];
+                if (told.load[l][FROM] != HOUSE || code >> 1 != m) continue;
+                if (high[code & 1] >= PILE) return false;
+                high[code & 1]++;
+                loads[many] = l;
+                many++;
             }
-            return NONE;
+            return true;
         }
 
-        /**
-         * How many orders go on from those that are hung. Each level hangs one LOAD more, so that
-         * it goes no deeper than there are LOADS.
-         */
-        private static int ordersBehind(Told told, int t, int all, int hung) {
-            if (hung == all) return 1;
-            int many = 0;
-            for (int l = 0; l < told.loads; l++) {
-                if (mayFollow(told, t, all & ~hung, hung, l)) {
-                    many += ordersBehind(told, t, all, hung | 1 << l);
-                }
+        private int nextInFirst(int hung) {
+            for (int i = 0; i < many; i++) {
+                if (mayFollow(hung, i) && orders[hung | 1 << i] > 0) return i;
             }
-            return many;
+            return 0;
         }
 
-        private static boolean mayFollow(Told told, int t, int left, int hung, int l) {
-            if ((left >> l & 1) == 0) return false;
-            int code = told.load[l][CODE];
-            int uneven = told.load[l][WEIGHT], high = 1;
-            for (int k = 0; k < told.loads; k++) {
+        private boolean mayFollow(int hung, int i) {
+            if ((hung >> i & 1) == 1) return false;
+            int[] load = told.load[loads[i]];
+            int uneven = load[WEIGHT];
+            for (int k = 0; k < many; k++) {
                 if ((hung >> k & 1) == 0) continue;
-                if (told.load[k][CODE] != code) {
-                    uneven -= told.load[k][WEIGHT];
+                int[] other = told.load[loads[k]];
+                if (other[CODE] != load[CODE]) {
+                    uneven -= other[WEIGHT];
                     continue;
                 }
-                if (told.isHard(l) && !told.isHard(k)) return false;
-                uneven += told.load[k][WEIGHT];
-                high++;
+                if (load[HARD] > other[HARD]) return false;
+                uneven += other[WEIGHT];
             }
-            return high <= PILE && Math.abs(uneven) <= t;
+            return Math.abs(uneven) <= mostUneven;
         }
     }
 }

@@ -1054,14 +1054,19 @@ public final class ModelTest {
         /** A day to begin with, so that most calls have something to do. */
         void beginDay(int doors, int mules, int loads) {
             for (int n = doors; n > 0; n--) due("door()", x.door(), model.door());
+            // Mules that are alike, and loads of like weights, have many hangings that are.
+            boolean likeMules = random.nextBoolean();
+            int most = 0, even = 0, longest = 0, weight = 0;
             for (int n = mules; n > 0; n--) {
-                int most = any(20, 120), even = any(0, 15), longest = any(0, 9);
+                if (!likeMules || n == mules || random.nextInt(4) == 0) most = any(20, 120);
+                if (!likeMules || n == mules || random.nextInt(4) == 0) even = any(0, 15);
+                if (!likeMules || n == mules) longest = any(0, 9);
                 due("mule(" + most + ", " + even + ", " + longest + ")", x.mule(most, even, longest),
                     model.mule(most, even, longest));
             }
             for (int n = loads; n > 0; n--) {
-                int weight = any(1, 30), hard = any(0, 1), from = random.nextInt(3) > 0 ? 0 : any(0, doors);
-                int to = any(0, doors);
+                if (n == loads || random.nextInt(3) > 0) weight = any(1, 30);
+                int hard = any(0, 1), from = random.nextInt(3) > 0 ? 0 : any(0, doors), to = any(0, doors);
                 due("load(" + weight + ", " + hard + ", " + from + ", " + to + ")", x.load(weight, hard, from, to),
                     model.load(weight, hard, from, to));
             }

@@ -1768,6 +1768,18 @@ public final class EdgesTest {
         due("digest() with THE FRACTION", two.digest() - ahead, 31 * 3 + (10 - 1));
     }
 
+    private static void fiveHundredAndTwelve() {
+        says("An object is used for at most 512 calls after it has been made");
+        EvenSides x = new EvenSides();
+        x.door();
+        for (int call = 2; call <= 511; call++) due("call " + call, x.way(0, 1, call % 99 + 1), call == 2 ? 1 : (call - 1) % 99 + 1);
+        due("call 512", x.way(1, 0, 7), 511 % 99 + 1);
+        EvenSides y = new EvenSides();
+        for (int call = 1; call <= 512; call++) {
+            due("call " + call, call % 2 == 1 ? y.type(0, 'a', 1) : y.clear(0), 1);
+        }
+    }
+
     private static void theFull() {
         says("the full: 5 DOORS in THE LINE, 3 MULES, 10 LOADS");
         String day = times("door;", 5) + times("mule 999 9 9;", 3) + times("load9hard0 5;", 10);
@@ -1842,6 +1854,7 @@ public final class EdgesTest {
         images();
         countAndDigest();
         theFull();
+        fiveHundredAndTwelve();
         System.out.println(wrong == 0 ? "all edges hold" : wrong + " answers are not as due");
         if (wrong != 0) System.exit(1);
     }

@@ -38,6 +38,25 @@ public final class LanguageTest {
             "a class inside that is not static");
     }
 
+    /** No method of the file's own has a public one's name, or more than seven parameters. */
+    private static void checkMethods(String code) {
+        Matcher face = Pattern.compile("\\bpublic \\w+ (\\w+)\\(").matcher(code);
+        StringBuilder names = new StringBuilder("none");
+        while (face.find()) names.append('|').append(face.group(1));
+        Matcher own = Pattern.compile("\n ++(?!public|return|else|new)[\\w\\[\\] ]+ (\\w+)\\(([^)]*)\\) \\{").matcher(code);
+        int methods = 0;
+        while (own.find()) {
+            methods++;
+            check(!own.group(1).matches(names.toString()), "a method named as a public one: " + own.group(1));
+            check(own.group(2).split(",").length <= 7, "more than seven parameters: " + own.group(1));
+        }
+        check(methods > 50, "methods were found");
+        Matcher classes = Pattern.compile("\\b(class|record|enum|interface)\\s+\\w+").matcher(code);
+        int many = 0;
+        while (classes.find()) many++;
+        check(many <= 12, many + " classes");
+    }
+
     private static void checkImports(String code) {
         Matcher m = Pattern.compile("import\\s+([^;]+);").matcher(code);
         while (m.find()) {
@@ -69,6 +88,7 @@ public final class LanguageTest {
         check(!has(file, "[^\n -~]"), "a sign that is not 32 to 126");
         String code = code(file);
         checkWords(code);
+        checkMethods(code);
         checkImports(code);
         checkLengths(code);
         System.out.println(wrong == 0 ? "the file keeps to the language" : wrong + " faults of the language");

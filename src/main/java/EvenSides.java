@@ -1051,6 +1051,7 @@ public final class EvenSides {
         private boolean byChance;
         private long certain;
         private final int[] row = new int[LOADS];
+        private final int[] hungOn = new int[MULES];
         private final int[][] bears = new int[DOORS][SIDES];
         private final int[][] loadsOn = new int[DOORS][SIDES];
 
@@ -1155,6 +1156,7 @@ public final class EvenSides {
 
         private void beginSeeking() {
             empty();
+            Arrays.fill(hungOn, 0);
             Arrays.fill(still[told.loads], 0);
             for (int l = told.loads - 1; l >= 0; l--) {
                 int first = legs.firstLeg(l), end = legs.endLeg(l);
@@ -1172,30 +1174,24 @@ public final class EvenSides {
             }
             int first = s.legs.firstLeg(l), end = s.legs.endLeg(l);
             for (int code = 0; code < 2 * s.told.mules; code++) {
-                if (s.repeats(l, code)) continue;
+                if (s.repeats(code)) continue;
                 s.row[l] = code;
                 s.bring(l, first, end, 1);
+                s.hungOn[code >> 1]++;
                 if (s.isBorneWith(l) && s.mayDoBetter(l)) seek(s, l + 1);
+                s.hungOn[code >> 1]--;
                 s.bring(l, first, end, -1);
             }
         }
 
         /* What is alike and bears nothing yet may change places: the rows with the lower code come first. */
-        private boolean repeats(int l, int code) {
+        private boolean repeats(int code) {
             int m = code >> 1;
-            if (bearsBelow(l, m)) return false;
+            if (hungOn[m] > 0) return false;
             int[] mule = told.mule[m];
             if ((code & 1) == 1 && mule[BEARS] == mule[BEARS + 1]) return true;
             for (int k = 0; k < m; k++) {
-                if (!bearsBelow(l, k) && alike(told.mule[k], mule)) return true;
-            }
-            return false;
-        }
-
-        /** Whether a LOAD of a number below l hangs on a MULE. */
-        private boolean bearsBelow(int l, int m) {
-            for (int k = 0; k < l; k++) {
-                if (row[k] >> 1 == m) return true;
+                if (hungOn[k] == 0 && alike(told.mule[k], mule)) return true;
             }
             return false;
         }
@@ -1221,17 +1217,16 @@ public final class EvenSides {
             System.arraycopy(row, 0, found, 0, LOADS);
         }
 
-        /* LOADS of higher numbers can make MULES more even, all together, by no more than they weigh. */
+        /* LOADS of higher numbers can make a MULE more even by no more than what they weigh. */
         private boolean mayDoBetter(int l) {
             if (byChance) return likeliest < certain;
             if (least <= 0) return false;
             int end = legs.endLeg(l);
             for (int leg = legs.firstLeg(l); leg < end; leg++) {
-                int over = 0;
+                int reach = least + still[l + 1][leg];
                 for (int m = 0; m < told.mules; m++) {
-                    over += Math.max(0, Math.abs(more(leg, m)) - least + 1);
+                    if (Math.abs(more(leg, m)) >= reach) return false;
                 }
-                if (over > still[l + 1][leg]) return false;
             }
             return true;
         }

@@ -1259,6 +1259,17 @@ public final class EdgesTest {
         rows(lined(told(THREE + "mule 18 9 9;mule 18 9 9;" + four), "1"), "0123");
         rows(lined(told(THREE + "mule 8 9 9;mule 999 9 9;load 9 hard 0 1;load 9 hard 0 1;"), "1"), "23");
         rows(lined(told(THREE + one + "lame 0 0 8;load 9 hard 0 1;load 8 hard 0 1;"), "1"), "10");
+        rows(lined(told(THREE + "mule 999 9 8;lame 0 0 8;load 9 hard 0 1;load 8 hard 0 1;"), "1"), "10");
+        // Mules that differ in one number alone are not alike.
+        String like = "mule 20 9 9;mule 20 9 9;", pair = "load 9 hard 0 1;load 9 hard 0 1;";
+        rows(lined(told(THREE + like + pair), "1"), "01");
+        rows(lined(told(THREE + like.replaceFirst("20", "17") + pair), "1"), "23");
+        rows(lined(told(THREE + like + "lame 0 0 8;" + pair), "1"), "23");
+        rows(lined(told(THREE + like + "lame 0 1 8;" + pair), "1"), "23");
+        rows(lined(told(THREE + "mule 17 1 1;mule 20 9 9;lame 0 0 8;lame 0 1 7;" + pair), "1"), "23");
+        EvenSides evens = lined(told(THREE + "mule 20 3 9;mule 20 5 9;load 5 hard 0 1;"), "1");
+        due("keep(0), where the second may be less even", evens.keep(0), 2);
+        due("stays(0)", evens.stays(0), 0);
         // A row that begins unevenly may end as the evenest; one by 1 may be followed by one by 0.
         String late = "load 2 hard 0 #;load 9 hard 0 #;load 3 hard 0 #;load 10 hard 0 #;";
         rows(lined(told(THREE + one + late.replace("#", "1")), "1"), "0110");
@@ -1631,6 +1642,10 @@ public final class EdgesTest {
         due("four", hung(three + "load1hard0 1;", "0000", "").alone(0, 999, -1), 0);
         due("four", hung(three + "load1hard0 1;", "0000", "").alone(0, 999, 0), -5);
         due("three and one", hung(three + "load1hard0 1;", "0001", "").alone(0, 999, -1), 24);
+        due("one and three", hung(three + "load1hard0 1;", "1000", "").alone(0, 999, -1), 24);
+        due("one and three", hung(three + "load1hard0 1;", "0111", "").alone(0, 999, -1), 24);
+        due("four on the other side", hung(three + "load1hard0 1;", "1111", "").alone(0, 999, -1), 0);
+        due("ten", hung(three + times("load1hard0 1;", 7), times("01", 5), "").alone(0, 999, -1), 0);
         due("three and a fourth that lies elsewhere", hung(three + "load1hard1 0;", "0000", "").alone(0, 999, -1), 6);
         due("three and a fourth on another mule", hung(three + "mule 9 9 9;load1hard0 1;", "0002", "").alone(0, 999, -1), 6);
         EvenSides six = hung(three + times("load1hard0 1;", 3), "000111", "");

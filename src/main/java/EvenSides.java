@@ -41,7 +41,7 @@ public final class EvenSides {
     private final Told[] images = {new Told(), new Told()};
     private final boolean[] kept = new boolean[IMAGES];
     private final Reader reader = new Reader(now);
-    private final Acts acts = new Acts(now);
+    private final Acts acts = new Acts(now, reader);
     private final Legs legs = new Legs(now);
     private final Scales scales = new Scales(now, legs);
     private final Routes routes = new Routes(now, legs, scales);
@@ -128,7 +128,7 @@ public final class EvenSides {
 
     public int run(int what) {
         if (!between(what, 0, 5)) return BAD;
-        if (!actsRead()) return NO;
+        if (!acts.perform()) return NO;
         switch (what) {
             case 0: return acts.right;
             case 1: return acts.wrong;
@@ -141,7 +141,7 @@ public final class EvenSides {
 
     public int side(int mule, int side, int what) {
         if (!now.isSide(mule, side) || !between(what, 0, 3)) return LOW_BAD;
-        if (!actsRead()) return LOW_NO;
+        if (!acts.perform()) return LOW_NO;
         int code = 2 * mule + side;
         switch (what) {
             case 0: return acts.borneBy(code);
@@ -153,7 +153,7 @@ public final class EvenSides {
 
     public int where(int load) {
         if (!now.isLoad(load)) return BAD;
-        if (!actsRead()) return NO;
+        if (!acts.perform()) return NO;
         return acts.at[load];
     }
 
@@ -322,12 +322,6 @@ public final class EvenSides {
             h = mixRow(h, now.text[t], now.bytes[t]);
         }
         return 31 * (31 * h + above) + below;
-    }
-
-    private boolean actsRead() {
-        if (reader.read(1) != NONE) return false;
-        acts.perform(reader);
-        return true;
     }
 
     private boolean weighTold() {
@@ -787,6 +781,7 @@ public final class EvenSides {
     /** Does the ACTS of TEXT 1. A SIDE is told by its code, 2 MULE and SIDE. */
     private static final class Acts {
         final Told told;
+        final Reader reader;
         int right, wrong, miles, minutes, place;
         final int[] at = new int[LOADS];
         final int[] high = new int[SIDES];
@@ -794,20 +789,28 @@ public final class EvenSides {
         private final int[][] pile = new int[SIDES][PILE];
         private final int[] stonesLie = new int[PLACES];
         private final int[] sore = new int[MULES];
+
+        /* By LOAD: what it weighs behind the goings so far. */
+        private final int[] weighs = new int[LOADS];
         private int goings;
 
-        Acts(Told told) {
+        Acts(Told told, Reader reader) {
             this.told = told;
+            this.reader = reader;
         }
 
-        void perform(Reader reader) {
+        /** Does them up to the first WRONG one; not if the TEXT has a FAULT. */
+        boolean perform() {
+            if (reader.read(1) != NONE) return false;
             begin();
-            for (int i = 0; i < reader.items; i++) {
+            for (int i = 0; i < reader.items && wrong == 0; i++) {
                 wrong = act(reader.word[i], reader.number[i]);
-                if (wrong != 0) return;
-                right++;
-                if (reader.word[i] != GO_WORD) minutes += told.numbers[LIFT];
+                if (wrong == 0) {
+                    right++;
+                    if (reader.word[i] != GO_WORD) minutes += told.numbers[LIFT];
+                }
             }
+            return true;
         }
 
         private void begin() {
@@ -820,10 +823,17 @@ public final class EvenSides {
             for (int l = 0; l < told.loads; l++) {
                 at[l] = told.load[l][FROM];
             }
+            weighLoads();
             System.arraycopy(told.stonesAt, 0, stonesLie, 0, PLACES);
             Arrays.fill(high, 0);
             Arrays.fill(stonesOn, 0);
             Arrays.fill(sore, 0);
+        }
+
+        private void weighLoads() {
+            for (int l = 0; l < told.loads; l++) {
+                weighs[l] = told.weightBehind(l, goings);
+            }
         }
 
         /** Does one act: by which it is WRONG, or 0. */
@@ -899,6 +909,7 @@ public final class EvenSides {
             }
             place = d;
             goings++;
+            weighLoads();
             return 0;
         }
 
@@ -906,7 +917,7 @@ public final class EvenSides {
         private int wrongOn(int l, int code, boolean newToMule) {
             if (high[code] >= PILE) return 3;
             if (told.isHard(l) && high[code] > 0 && !told.isHard(topOf(code))) return 4;
-            return tooHeavy(told.weightBehind(l, goings), code, newToMule) ? 5 : 0;
+            return tooHeavy(weighs[l], code, newToMule) ? 5 : 0;
         }
 
         private boolean tooHeavy(int more, int code, boolean newToMule) {
@@ -944,7 +955,7 @@ public final class EvenSides {
         int borneBy(int code) {
             int sum = stonesOn[code] * told.numbers[STONE_WEIGHS];
             for (int i = 0; i < high[code]; i++) {
-                sum += told.weightBehind(pile[code][i], goings);
+                sum += weighs[pile[code][i]];
             }
             return sum;
         }
@@ -1257,9 +1268,12 @@ public final class EvenSides {
             return chance;
         }
 
+        /* It calls nothing: the search for KEEP is as deep as LANGUAGE.md lets calls go. */
         private boolean isEven(int m) {
+            int even = told.mule[m][EVEN];
             for (int leg = 0; leg < legs.many; leg++) {
-                if (Math.abs(more(leg, m)) > told.mule[m][EVEN]) return false;
+                int more = bears[leg][2 * m] - bears[leg][2 * m + 1];
+                if (more > even || -more > even) return false;
             }
             return true;
         }

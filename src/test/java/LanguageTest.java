@@ -182,6 +182,7 @@ public final class LanguageTest {
         @Override public Void visitBinary(BinaryTree t, Element in) {
             for (Tree side : new Tree[] {t.getLeftOperand(), t.getRightOperand()}) {
                 check(typeOf(side).getKind().isPrimitive(), "6, 10", t.getKind() + " of texts or objects" + at(t));
+                // The rule lets them stand; the document has whole numbers alone.
                 check(!typeOf(side).toString().matches("double|float"), "3", "a number that is not whole" + at(t));
             }
             return super.visitBinary(t, in);
